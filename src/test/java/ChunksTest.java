@@ -7,6 +7,8 @@ public final class ChunksTest {
         numbersAndLengths();
         fingerprints();
         likeFingerprints();
+        likeFingerprintsOfOtherLengths();
+        likeFingerprintsOfFirstBytes();
         references();
         packing();
         packingToTheBrim();
@@ -104,6 +106,40 @@ public final class ChunksTest {
         due.same("its byte", x.byteAt(0, 0, 3), 0);
         due.same("its byte", x.byteAt(0, 1, 3), 251);
         due.same("no hit", x.cacheHits(), 0);
+    }
+
+    /** With 250 the a of a fingerprint is 0 modulo 251, and a 0 behind it changes neither a nor b. */
+    private static void likeFingerprintsOfOtherLengths() {
+        DedupVault x = new DedupVault();
+        x.append(250, 0, 1);
+        x.save(0);
+        x.append(0, 0, 1);
+        due.same("wouldStore of a longer one", x.wouldStore(), 2);
+        x.save(0);
+        due.same("one fingerprint", x.fingerprint(0), x.fingerprint(1));
+        due.same("two lengths", x.chunkLength(0) * 10 + x.chunkLength(1), 12);
+        x.append(251, 0, 1);
+        x.save(0);
+        x.cut(1, 2);
+        due.same("wouldStore of the shorter one", x.wouldStore(), 0);
+        x.save(1);
+        due.same("the shorter one is found", x.chunkAt(1, 0, 0), 0);
+        due.same("chunks", x.chunks(), 3);
+    }
+
+    /** A first byte of 0 or of 251 is one to the fingerprint. */
+    private static void likeFingerprintsOfFirstBytes() {
+        DedupVault x = new DedupVault();
+        x.append(0, 0, 1);
+        x.append(5, 0, 6);
+        x.save(0);
+        x.cut(0, 1);
+        x.insert(0, 251);
+        due.same("wouldStore", x.wouldStore(), 7);
+        x.save(0);
+        due.same("chunks", x.chunks(), 2);
+        due.same("one fingerprint", x.fingerprint(0), x.fingerprint(1));
+        due.same("its first byte", x.byteAt(0, 1, 0), 251);
     }
 
     private static void references() {

@@ -93,6 +93,10 @@ public final class FaceTest {
     }
 
     private static void innerClasses() {
+        Set<String> open = new HashSet<>();
+        for (Method method : DedupVault.class.getMethods()) {
+            open.add(method.getName());
+        }
         Class<?>[] inner = DedupVault.class.getDeclaredClasses();
         due.same("classes", inner.length <= 11, true);
         for (Class<?> c : inner) {
@@ -103,6 +107,7 @@ public final class FaceTest {
                 staticIsConstant(field);
             }
             for (Method method : c.getDeclaredMethods()) {
+                due.same(method + " has a name of its own", open.contains(method.getName()), false);
                 due.same(method + " takes few arguments", method.getParameterCount() <= 7, true);
             }
         }

@@ -2,8 +2,8 @@ import java.util.Random;
 
 /**
  * All promises: long walks of chosen calls, each answer, and all that can be asked, compared with the model's.
- * Asking for all takes an object past its 512th call, where the document leaves its answers free; that only two walks
- * in three ask for all at their end alone shows that what is compared does not hang on it.
+ * Asking for all takes an object past its 512th call, where the document leaves the answers free; this class answers on.
+ * Two walks in three ask for all at their end alone, so that they are of 512 calls until then.
  */
 public final class ModelTest {
     private static final Due due = new Due("ModelTest");

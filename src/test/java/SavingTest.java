@@ -13,6 +13,8 @@ public final class SavingTest {
         collectHalf();
         collectOrder();
         collectOpensContainers();
+        collectKeepsOrderOfContainer();
+        collectLeavesTheOneOpenAtFirst();
         collectCache();
         goneChunksComeAgain();
         due.end();
@@ -266,6 +268,40 @@ public final class SavingTest {
         for (int i = 0; i < 48; i++) {
             due.same("its bytes", x.byteAt(2, 0, i), i < 8 ? 4 : i < 40 ? 3 : 2);
         }
+    }
+
+    private static void collectKeepsOrderOfContainer() {
+        DedupVault x = new DedupVault();
+        Drafts.save(x, 0, 1, 3, 5, 7);
+        Drafts.save(x, 1, 2);
+        Drafts.save(x, 2, 1);
+        x.forget(0, 0);
+        due.same("collect", x.collect(), 96);
+        // container 1 has chunk 4 (8) and then chunk 0 (32); 5 and 6 close it, container 2 gets 16 bytes of room
+        Drafts.save(x, 3, 9, 11);
+        Drafts.save(x, 4, 13, 15, 17, 4, 6);
+        due.same("openContainer", x.openContainer(), 2);
+        x.forget(3, 0);
+        due.same("collect", x.collect(), 64);
+        due.same("chunk 4 lay first and fits", x.containerOf(4), 2);
+        due.same("chunk 0 lay behind it", x.containerOf(0), 3);
+        due.same("containers", x.containers(), 2);
+    }
+
+    private static void collectLeavesTheOneOpenAtFirst() {
+        DedupVault x = new DedupVault();
+        Drafts.save(x, 0, 1, 3, 5, 7);
+        Drafts.save(x, 1, 9, 11, 13, 2);
+        Drafts.save(x, 2, 1);
+        x.forget(0, 0);
+        x.forget(1, 0);
+        // chunk 0 does not fit behind the 104 bytes of garbage: container 1 is closed on the way
+        due.same("collect", x.collect(), 96);
+        due.same("containers", x.containers(), 2);
+        due.same("openContainer", x.openContainer(), 2);
+        due.same("garbage in what was open", x.garbage(), 104);
+        due.same("the next call collects it", x.collect(), 104);
+        due.same("containers", x.containers(), 1);
     }
 
     private static void collectCache() {
