@@ -92,6 +92,10 @@ public final class ChunksTest {
     }
 
     /** Chunks that differ only by a 0 and a 251 have one fingerprint, and are two all the same. */
+    @Sentence(in = "Chunks", says = "different chunks can have the same one.", broken = {
+        "if (source.get(from + i) != other.source.get(other.from + i)) { => if (false) {",
+        "for (int i = 0; i < size; i++) {\n                if (source => for (int i = 0; i < size - 1; i++) {\n"
+            + "                if (source"})
     private static void likeFingerprints() {
         DedupVault x = new DedupVault();
         x.append(1, 0, 3);
@@ -109,6 +113,9 @@ public final class ChunksTest {
     }
 
     /** With 250 the a of a fingerprint is 0 modulo 251, and a 0 behind it changes neither a nor b. */
+    @Sentence(in = "Chunks", says = "different chunks can have the same one.", broken = {
+        "mark != other.mark || size != other.size => mark != other.mark",
+        "mark != other.mark || size != other.size => mark != other.mark || size < other.size"})
     private static void likeFingerprintsOfOtherLengths() {
         DedupVault x = new DedupVault();
         x.append(250, 0, 1);
@@ -125,9 +132,20 @@ public final class ChunksTest {
         x.save(1);
         due.same("the shorter one is found", x.chunkAt(1, 0, 0), 0);
         due.same("chunks", x.chunks(), 3);
+        DedupVault y = new DedupVault();
+        y.append(250, 0, 1);
+        y.append(0, 0, 1);
+        y.save(0);
+        y.cut(1, 1);
+        due.same("wouldStore of a shorter one", y.wouldStore(), 1);
+        y.save(0);
+        due.same("two lengths", y.chunkLength(0) * 10 + y.chunkLength(1), 21);
     }
 
     /** A first byte of 0 or of 251 is one to the fingerprint. */
+    @Sentence(in = "Chunks", says = "different chunks can have the same one.",
+        broken = "for (int i = 0; i < size; i++) {\n                if (source => for (int i = 1; i < size; i++) {\n"
+            + "                if (source")
     private static void likeFingerprintsOfFirstBytes() {
         DedupVault x = new DedupVault();
         x.append(0, 0, 1);

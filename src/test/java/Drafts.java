@@ -26,7 +26,8 @@ final class Drafts {
 
     static String entries(DedupVault x, int file, int version) {
         StringBuilder all = new StringBuilder();
-        for (int i = 0; i < x.chunksOf(file, version); i++) {
+        int many = x.chunksOf(file, version);
+        for (int i = 0; i < many; i++) {
             all.append(i == 0 ? "" : " ").append(x.chunkAt(file, version, i));
         }
         return all.toString();
@@ -34,7 +35,8 @@ final class Drafts {
 
     static String lengths(DedupVault x, int file, int version) {
         StringBuilder all = new StringBuilder();
-        for (int i = 0; i < x.chunksOf(file, version); i++) {
+        int many = x.chunksOf(file, version);
+        for (int i = 0; i < many; i++) {
             all.append(i == 0 ? "" : " ").append(x.chunkLength(x.chunkAt(file, version, i)));
         }
         return all.toString();

@@ -270,6 +270,12 @@ public final class SavingTest {
         }
     }
 
+    @Sentence(in = "Containers and cache", says = "then the chunk is put behind the others in the open container.",
+        broken = "content.add(chunk); => content.add(0, chunk);")
+    @Sentence(in = "Garbage", says = "those that are not garbage are stored anew in their order", broken = {
+        "needed.add(content.get(i)); => needed.add(0, content.get(i));",
+        "needed.add(content.get(i)); => int at = needed.size(); while (at > 0 && needed.get(at - 1).number() > "
+            + "content.get(i).number()) { at--; } needed.add(at, content.get(i));"})
     private static void collectKeepsOrderOfContainer() {
         DedupVault x = new DedupVault();
         Drafts.save(x, 0, 1, 3, 5, 7);

@@ -185,6 +185,9 @@ public final class VersionsTest {
         kept(y, 1, 1, 0, 1, 2);
     }
 
+    @Sentence(in = "Differences", says = "s for how many of those that are left in both are alike at their ends", broken = {
+        "while (back < most - front && => while (back < most &&",
+        "while (back < most - front && => while (back < entries.size() - front &&"})
     private static void repeatedEntries() {
         DedupVault x = new DedupVault();
         Drafts.save(x, 0, 2, 2, 2, 2, 2);
