@@ -1,31 +1,18 @@
-import java.io.ByteArrayOutputStream;
 import java.io.IOException;
-import java.io.OutputStream;
-import java.io.StringWriter;
 import java.lang.reflect.Field;
 import java.lang.reflect.InvocationTargetException;
 import java.lang.reflect.Method;
-import java.net.URI;
 import java.net.URISyntaxException;
 import java.nio.charset.StandardCharsets;
 import java.nio.file.Files;
 import java.nio.file.Path;
 import java.util.ArrayList;
-import java.util.HashMap;
 import java.util.List;
 import java.util.Map;
 import java.util.regex.Matcher;
 import java.util.regex.Pattern;
 import java.util.stream.Collectors;
 import java.util.stream.IntStream;
-import javax.tools.FileObject;
-import javax.tools.ForwardingJavaFileManager;
-import javax.tools.JavaCompiler;
-import javax.tools.JavaFileManager;
-import javax.tools.JavaFileObject;
-import javax.tools.SimpleJavaFileObject;
-import javax.tools.StandardJavaFileManager;
-import javax.tools.ToolProvider;
 
 /**
  * Each test that stands for a sentence would fail if the sentence were broken: the class is broken in the ways that the
@@ -34,7 +21,6 @@ import javax.tools.ToolProvider;
  */
 public final class BrokenTest {
     private static final Due due = new Due("BrokenTest");
-    private static final JavaCompiler compiler = ToolProvider.getSystemJavaCompiler();
 
     private final String source;
     private final Path testClasses;
@@ -45,7 +31,7 @@ public final class BrokenTest {
     }
 
     public static void main(String[] args) throws IOException, URISyntaxException, ReflectiveOperationException {
-        Path root = Path.of(args.length > 0 ? args[0] : ".").toAbsolutePath();
+        Path root = Path.of(args.length > 0 ? args[0] : ".").toAbsolutePath().normalize();
         String source = Files.readString(root.resolve("src/main/java/DedupVault.java"), StandardCharsets.US_ASCII);
         Path classes = Path.of(BrokenTest.class.getProtectionDomain().getCodeSource().getLocation().toURI());
         BrokenTest broken = new BrokenTest(source, classes);
@@ -85,11 +71,11 @@ public final class BrokenTest {
             if (changed == null) {
                 return "does not fit the source";
             }
-            Map<String, byte[]> classes = compiled(changed);
+            Map<String, byte[]> classes = Compiled.classes(List.of(Compiled.file("DedupVault", changed)));
             if (classes.isEmpty()) {
                 return "does not compile";
             }
-            return passes(test, new Loader(classes, testClasses)) ? "passes" : "fails";
+            return passes(test, new Compiled.Loader(classes, testClasses)) ? "passes" : "fails";
         } catch (IOException | ReflectiveOperationException e) {
             return e.toString();
         }
@@ -144,74 +130,5 @@ public final class BrokenTest {
     private static String begun(String text, String method, String statement) {
         Matcher m = Pattern.compile("public \\w+ " + method + "\\([^)]*\\)[^{;]*\\{").matcher(text);
         return m.find() ? text.substring(0, m.end()) + " " + statement + text.substring(m.end()) : null;
-    }
-
-    // ---- compiling and loading
-
-    private static Map<String, byte[]> compiled(String text) throws IOException {
-        Map<String, ByteArrayOutputStream> made = new HashMap<>();
-        JavaFileObject file = new SimpleJavaFileObject(URI.create("string:///DedupVault.java"),
-                JavaFileObject.Kind.SOURCE) {
-            @Override
-            public CharSequence getCharContent(boolean ignoreErrors) {
-                return text;
-            }
-        };
-        StringWriter said = new StringWriter();
-        try (StandardJavaFileManager files = compiler.getStandardFileManager(null, null, null)) {
-            boolean good = compiler.getTask(said, new Kept(files, made), null, List.of("-proc:none", "--release", "17"),
-                    null, List.of(file)).call();
-            Map<String, byte[]> classes = new HashMap<>();
-            if (good) {
-                made.forEach((name, bytes) -> classes.put(name, bytes.toByteArray()));
-            }
-            return classes;
-        }
-    }
-
-    /** Keeps what the compiler makes, by the names of the classes. */
-    private static final class Kept extends ForwardingJavaFileManager<JavaFileManager> {
-        private final Map<String, ByteArrayOutputStream> made;
-
-        Kept(JavaFileManager files, Map<String, ByteArrayOutputStream> made) {
-            super(files);
-            this.made = made;
-        }
-
-        @Override
-        public JavaFileObject getJavaFileForOutput(Location where, String name, JavaFileObject.Kind kind,
-                FileObject sibling) {
-            ByteArrayOutputStream bytes = new ByteArrayOutputStream();
-            made.put(name, bytes);
-            return new SimpleJavaFileObject(URI.create("string:///" + name + kind.extension), kind) {
-                @Override
-                public OutputStream openOutputStream() {
-                    return bytes;
-                }
-            };
-        }
-    }
-
-    /** Loads the changed class, and the tests anew, so that they use it and share nothing with other runs. */
-    private static final class Loader extends ClassLoader {
-        private final Map<String, byte[]> classes;
-        private final Path testClasses;
-
-        Loader(Map<String, byte[]> classes, Path testClasses) {
-            super(ClassLoader.getPlatformClassLoader());
-            this.classes = classes;
-            this.testClasses = testClasses;
-        }
-
-        @Override
-        protected Class<?> findClass(String name) throws ClassNotFoundException {
-            byte[] bytes = classes.get(name);
-            try {
-                bytes = bytes == null ? Files.readAllBytes(testClasses.resolve(name + ".class")) : bytes;
-            } catch (IOException e) {
-                throw new ClassNotFoundException(name, e);
-            }
-            return defineClass(name, bytes, 0, bytes.length);
-        }
     }
 }

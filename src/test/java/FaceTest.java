@@ -6,29 +6,26 @@ import java.lang.reflect.Modifier;
 import java.nio.charset.StandardCharsets;
 import java.nio.file.Files;
 import java.nio.file.Path;
-import java.util.ArrayList;
 import java.util.Arrays;
 import java.util.HashSet;
-import java.util.List;
 import java.util.Set;
 import java.util.TreeSet;
 import java.util.regex.Matcher;
 import java.util.regex.Pattern;
 import java.util.stream.Collectors;
 
-/** The public face is the document's, and the source keeps to what can be told of LANGUAGE.md by its looks. */
+/** The public face is the document's, and nothing else of the class is open. */
 public final class FaceTest {
     private static final Due due = new Due("FaceTest");
 
     public static void main(String[] args) throws IOException {
-        Path root = Path.of(args.length > 0 ? args[0] : ".").toAbsolutePath();
+        Path root = Path.of(args.length > 0 ? args[0] : ".").toAbsolutePath().normalize();
         String document = Files.readString(root.resolveSibling("shared").resolve("DOC.md"));
         String source = Files.readString(root.resolve("src/main/java/DedupVault.java"), StandardCharsets.ISO_8859_1);
         face(document);
         noOtherMembers();
         innerClasses();
-        source(source);
-        methodLengths(source);
+        headings(document, source);
         due.end();
     }
 
@@ -113,42 +110,20 @@ public final class FaceTest {
         }
     }
 
-    private static void source(String text) {
-        boolean ascii = text.chars().allMatch(c -> c == '\n' || c >= 32 && c < 127);
-        due.same("the source has signs of ASCII alone", ascii, true);
-        due.same("one import", text.split("\nimport |^import ", -1).length - 1, 1);
-        due.same("the import is ArrayList's", text.startsWith("import java.util.ArrayList;\n"), true);
-        String code = text.replaceAll("(?s)/\\*.*?\\*/", "").replaceAll("//[^\n]*", "");
-        String[] ruledOut = {"->", "::", "\\bassert\\b", "\\bsynchronized\\b", "\\bfinally\\b", "\\btry\\b", "\\bcatch\\b",
-            "\\bprotected\\b", "\\bstatic\\s*\\{", "\\bjava\\.(?!util\\.ArrayList;)", "\\bSystem\\b", "\\bThread\\b",
-            "\\.equals\\b", "hashCode", "toString", "\"", "Exact\\b", "\\bvar\\b", "\\binstanceof\\b", "\\bfor \\([^;)]*:"};
-        for (String sign : ruledOut) {
-            due.same("the source has no " + sign, Pattern.compile(sign).matcher(code).find(), false);
-        }
-        Matcher math = Pattern.compile("\\bMath\\.(\\w+)").matcher(code);
-        while (math.find()) {
-            due.same("Math." + math.group(1), math.group(1).equals("min") || math.group(1).equals("max"), true);
-        }
-        Matcher thrown = Pattern.compile("\\bthrow ([^;]*);").matcher(code);
-        while (thrown.find()) {
-            due.same("throw " + thrown.group(1), thrown.group(1).matches(
-                    "new (IllegalState|IllegalArgument|IndexOutOfBounds)Exception\\(\\)"), true);
-        }
-    }
-
-    private static void methodLengths(String text) {
-        List<String> lines = new ArrayList<>(Arrays.asList(text.split("\n")));
-        int from = -1;
-        for (int i = 0; i < lines.size(); i++) {
-            String line = lines.get(i);
-            if (line.endsWith(") {") && line.matches(" {4}( {4})?[A-Za-z].*") && !line.contains(" class ")) {
-                from = i;
+    /** The document's words "Ahead of the calls .. the interface says: ---- .." tell under what each call stands. */
+    private static void headings(String document, String source) {
+        Matcher told = Pattern.compile("Ahead of the calls ([^:]*) the interface says: (---- [^.]*)\\.").matcher(document);
+        int at = 0;
+        int calls = 0;
+        while (told.find()) {
+            at = source.indexOf("\n    // " + told.group(2) + "\n", at);
+            due.same("the source says in its turn: " + told.group(2), at >= 0, true);
+            for (String name : told.group(1).split(", ")) {
+                at = source.indexOf(" " + name.replace("`", "") + "(", Math.max(0, at));
+                due.same(name + " stands under " + told.group(2), at >= 0, true);
+                calls++;
             }
-            if (from >= 0 && line.matches(" {4}( {4})?\\}")) {
-                due.same("the method in line " + (from + 1) + " is short", i - from <= 60, true);
-                from = -1;
-            }
-            due.same("line " + (i + 1) + " is short", line.length() <= 120, true);
         }
+        due.same("calls under a heading", calls, 37);
     }
 }

@@ -60,7 +60,7 @@ public final class SentencesTest {
             "Promise 32: Returns a container of the cache.");
 
     public static void main(String[] args) throws IOException, ReflectiveOperationException {
-        Path root = Path.of(args.length > 0 ? args[0] : ".").toAbsolutePath();
+        Path root = Path.of(args.length > 0 ? args[0] : ".").toAbsolutePath().normalize();
         Map<String, List<String>> document = sentences(Files.readString(
                 root.resolveSibling("shared").resolve("DOC.md"), StandardCharsets.UTF_8));
         TreeSet<String> covered = new TreeSet<>();
